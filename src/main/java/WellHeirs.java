@@ -53,6 +53,7 @@ public final class WellHeirs {
     private int taped = 0;
     private final World now = new World();
     private final World then = new World();
+    /** Made when they are first needed, and used again: most objects have no mark. */
     private final World[] marks = new World[MARKS];
     private int marked = 0;
     private final WellReader wellReader;
@@ -68,9 +69,6 @@ public final class WellHeirs {
     public WellHeirs() {
         for (int i = 0; i < TRAYS; i++) {
             trays[i] = new Tray();
-        }
-        for (int i = 0; i < MARKS; i++) {
-            marks[i] = new World();
         }
         Tokens tokens = new Tokens(tape);
         wellReader = new WellReader(tokens, then);
@@ -279,7 +277,7 @@ public final class WellHeirs {
             case 2:
                 return tell(asked.pieces);
             case 3:
-                return tell(asked.length());
+                return tell(asked.length);
             case 4:
                 return tell(asked.reach());
             case 5:
@@ -459,7 +457,7 @@ public final class WellHeirs {
             return none(UNKNOWN);
         }
         Rope whole = now.ropes[rope];
-        int length = whole.length();
+        int length = whole.length;
         if (yards < 1 || yards >= length) {
             return none(BAD_NUMBER);
         }
@@ -484,7 +482,7 @@ public final class WellHeirs {
             return none(UNKNOWN);
         }
         Rope whole = now.ropes[rope];
-        int length = whole.length();
+        int length = whole.length;
         if (yards < 1 || yards > length) {
             return none(BAD_NUMBER);
         }
@@ -718,13 +716,16 @@ public final class WellHeirs {
         if (marked >= MARKS) {
             return none(TOO_MANY);
         }
+        if (marks[marked] == null) {
+            marks[marked] = new World();
+        }
         marks[marked].copyFrom(now);
         marked++;
         return tell(marked);
     }
 
     public int back() {
-        if (marked <= 0) {
+        if (marked <= 0 || marks[marked - 1] == null) {
             return none(NOTHING);
         }
         marked--;
@@ -836,6 +837,7 @@ public final class WellHeirs {
         int owner = NONE;
         int borrower = NONE;
         int pieces = 0;
+        int length = 0;
         boolean holy = false;
         int slips = 0;
         final int[] yards = new int[PIECES];
@@ -845,6 +847,7 @@ public final class WellHeirs {
             owner = other.owner;
             borrower = other.borrower;
             pieces = other.pieces;
+            length = other.length;
             holy = other.holy;
             slips = other.slips;
             System.arraycopy(other.yards, 0, yards, 0, PIECES);
@@ -855,6 +858,7 @@ public final class WellHeirs {
             owner = NONE;
             borrower = NONE;
             pieces = 0;
+            length = 0;
             holy = false;
             slips = 0;
         }
@@ -880,16 +884,12 @@ public final class WellHeirs {
             return sum;
         }
 
-        int length() {
-            return lengthOf(pieces);
-        }
-
         int knots() {
             return pieces - 1;
         }
 
         int reach() {
-            return lengthOf(pieces) - knots();
+            return length - knots();
         }
 
         int oldest() {
@@ -911,11 +911,12 @@ public final class WellHeirs {
             return NONE;
         }
 
-        void add(int length, int old) {
+        void add(int more, int old) {
             if (pieces < PIECES) {
-                yards[pieces] = length;
+                yards[pieces] = more;
                 age[pieces] = old;
                 pieces++;
+                length += more;
             }
         }
 
@@ -946,6 +947,7 @@ public final class WellHeirs {
                 begin = end;
             }
             pieces = stay;
+            length = Math.min(length, kept);
         }
 
         long holdsTop() {
@@ -1098,7 +1100,7 @@ public final class WellHeirs {
             int sum = 0;
             for (int r = 0; r < ROPES; r++) {
                 if (ropes[r].isThere() && ropes[r].owner == person) {
-                    sum += ropes[r].length();
+                    sum += ropes[r].length;
                 }
             }
             return sum;
@@ -1108,7 +1110,7 @@ public final class WellHeirs {
             int sum = 0;
             for (int r = 0; r < ROPES; r++) {
                 if (ropes[r].isThere() && ropes[r].holder() == person) {
-                    sum += ropes[r].length();
+                    sum += ropes[r].length;
                 }
             }
             return sum;
@@ -1117,7 +1119,7 @@ public final class WellHeirs {
         int allYards() {
             int sum = 0;
             for (int r = 0; r < ROPES; r++) {
-                sum += ropes[r].length();
+                sum += ropes[r].length;
             }
             return sum;
         }
@@ -1264,7 +1266,7 @@ public final class WellHeirs {
         private void findFacts(Rope rope, int heirs) {
             facts[HOLY] = rope.holy ? 1 : 0;
             facts[REACHES] = rope.reach() >= depthNow() ? 1 : 0;
-            facts[OF_YARDS] = rope.length();
+            facts[OF_YARDS] = rope.length;
             facts[OF_REACH] = rope.reach();
             facts[OF_KNOTS] = rope.knots();
             facts[OF_AGE] = rope.oldest() + year;
@@ -1288,7 +1290,7 @@ public final class WellHeirs {
         }
 
         private boolean isForEach(Rope rope, int parts) {
-            return !rope.holy && rope.length() >= parts && countRopes() + parts - 1 <= ROPES;
+            return !rope.holy && rope.length >= parts && countRopes() + parts - 1 <= ROPES;
         }
 
         private void shareOut(int rope, int heirs) {
@@ -1296,8 +1298,8 @@ public final class WellHeirs {
             if (parts == 0) {
                 return;
             }
-            int even = ropes[rope].length() / parts;
-            int longer = ropes[rope].length() % parts;
+            int even = ropes[rope].length / parts;
+            int longer = ropes[rope].length % parts;
             int current = rope;
             int shared = 0;
             for (int p = 0; p < people && current != NONE; p++) {
@@ -1366,15 +1368,12 @@ public final class WellHeirs {
         private static boolean isSo(int step, int[] facts) {
             int what = step >> 4 & 15;
             int fact = what < facts.length ? facts[what] : 0;
+            int sign = step >> 8 & 255;
             int number = step >> 16;
-            switch (step >> 8 & 255) {
-                case '<':
-                    return fact < number;
-                case '>':
-                    return fact > number;
-                default:
-                    return fact == number;
+            if (sign == '<') {
+                return fact < number;
             }
+            return sign == '>' ? fact > number : fact == number;
         }
     }
 
@@ -1936,7 +1935,7 @@ public final class WellHeirs {
         private int need = 0;
         private final int[] gain = new int[ROPES];
         /** For each set of ropes: sets that come full times GROUP, and what lies in the one begun: the most of that. */
-        private final int[] full = new int[1 << ROPES];
+        private int[] full = new int[1];
         /** How many ropes so many sets need at least, NONE if they can't be. */
         private final int[] fewest = new int[ROPES + 1];
 
@@ -1963,8 +1962,12 @@ public final class WellHeirs {
         }
 
         private void fillSets() {
+            int sets = 1 << count;
+            if (full.length < sets) {
+                full = new int[sets];
+            }
             full[0] = 0;
-            for (int set = 1; set < 1 << count; set++) {
+            for (int set = 1; set < sets; set++) {
                 int most = 0;
                 for (int i = 0; i < count; i++) {
                     if ((set >> i & 1) == 1) {
