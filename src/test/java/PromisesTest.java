@@ -183,6 +183,28 @@ public final class PromisesTest {
         c.due(x, "rope", x.rope(0, 5), 300, 0);
         Check.well(x, "person a;rope r of a yards 1 age 0 yards 2 age 1 yards 3 age 2 yards 4 age 3;flood 5 to 5 by 999;");
         c.due(x, "pieces", x.rope(0, 2), 4, 0);
+        c.due(x, "the least numbers", Check.well(x, "water 0 bottom 0 sinks 0 rain 0 by 0;person a dies 1;rope r of a yards 1 age 0 slips 0;flood 0 to 0 by 1;"), 1, 0);
+        c.due(x, "the greatest", Check.well(x, "water 999 bottom 999 sinks 99 rain 16 by 99;person a dies 200;flood 200 to 200 by 999;"), 1, 0);
+    }
+
+    private static void wellAnew() {
+        c.at("10, anew");
+        WellHeirs x = c.with("water 9 bottom 9 sinks 2 rain 16 by 1;person a dies 5;person b;rope r of a yards 5 age 4 holy slips 3;rope s of b yards 1 age 1;flood 0 to 200 by 1;",
+            "if year < 999 give well;");
+        x.lend(0, 1);
+        x.seed(55);
+        x.pass(1);
+        c.due(x, "a well without water", Check.well(x, "person c dies 2;person d of c;rope r of c yards 7 age 6;"), 2, 0);
+        int[] due = {2, 1, 0, 0, 0, 0, 0};
+        for (int i = 0; i < due.length; i++) c.due(x, "many(" + i + ")", x.many(i), due[i], 0);
+        int[] rope = {0, -1, 1, 7, 7, 6, 0, 0};
+        for (int i = 0; i < rope.length; i++) c.due(x, "rope(0," + i + ")", x.rope(0, i), rope[i], i == 1 ? 8 : 0);
+        c.due(x, "water does not sink", x.depth(9), 0, 0);
+        x.pass(2);
+        c.due(x, "no rain, no draws", x.many(6), 0, 0);
+        c.due(x, "no law", x.rope(0, 0), 1, 0);
+        Check.well(x, "water 8 bottom 9;");
+        c.due(x, "no flood", x.many(4), 8, 0);
     }
 
     private static void wellFaults() {
@@ -407,7 +429,8 @@ public final class PromisesTest {
         c.due(x, "age", x.rope(0, 5), 57, 0);
         x.lend(0, 3);
         c.due(x, "borrower", x.rope(0, 1), 3, 0);
-        WellHeirs y = c.with("person a dies 1;rope r of a yards 1 age 1;");
+        WellHeirs y = c.with("person a dies 1;rope r of a yards 1 age 0;");
+        c.due(y, "age 0", y.rope(0, 5), 0, 0);
         y.pass(1);
         c.due(y, "the well's", y.rope(0, 0), -1, 0);
     }
@@ -479,6 +502,9 @@ public final class PromisesTest {
         x = c.with(HEIRS + "rope r of a yards 9 age 1;", "if year = 5 give youngest;");
         x.pass(5);
         c.due(x, "youngest; d dies too", x.rope(0, 0), 2, 0);
+        x = c.with(HEIRS + "person f of a;person g;person h of a;rope r of a yards 9 age 1;", "if year = 5 give youngest;");
+        x.pass(5);
+        c.due(x, "youngest of the most", x.rope(0, 0), 7, 0);
         x = c.with(HEIRS + "rope r of a yards 9 age 1;rope s of b yards 1 age 1;rope t of c yards 1 age 1;", "if year = 5 give poorest;");
         x.pass(5);
         c.due(x, "poorest, of several the least", x.rope(0, 0), 1, 0);
@@ -546,6 +572,11 @@ public final class PromisesTest {
         x.pass(5);
         c.due(x, "thirteen may not: to the eldest", x.rope(0, 3), 9, 0);
         c.due(x, "b's", x.rope(0, 0), 1, 0);
+        x = c.with(HEIRS + "person f of a;rope r of a yards 9 age 1;rope s of e yards 50 age 1;", each);
+        for (int i = 0; i < 9; i++) x.cut(1, 1);
+        x.pass(5);
+        c.due(x, "eleven and two more: to the eldest, whole", x.rope(0, 3), 9, 0);
+        c.due(x, "eleven still", x.many(1), 11, 0);
     }
 
     private static void lawWords() {
@@ -664,6 +695,8 @@ public final class PromisesTest {
         x.odds(0, 1, 100, 20);
         c.due("some do, some do not", good > 0 && good < 20, true);
         c.due("as many as counted", x.top() * 20, x.bottom() * good);
+        int first = (9011 / 8 % 16 < 8) ? 1 : 0;
+        c.fraction(x, "one seed alone", x.odds(0, 1, 0, 1), first, 1);
         c.fraction(x, "none now", x.odds(0, 0, 0, 20), 0, 1);
         c.due(x, "odds(1,..)", x.odds(1, 900, 0, 1), false, 2);
         c.due(x, "ahead", x.odds(0, 101, 0, 1), false, 5);
@@ -895,8 +928,8 @@ public final class PromisesTest {
         WellHeirs x = c.with("water 10 bottom 10;person a;person b;person c dies 3;rope r of a yards 10 age 1;rope s of a yards 5 age 1;rope t of a yards 6 age 1;"
             + "rope u of a yards 4 age 1;rope v of a yards 4 age 1;rope w of a yards 4 age 1;");
         // 10 alone; 5 + 6 - 1 by a knot; 4 + 4 + 4 - 2 by two.
-        c.due(x, "plan", x.plan(), 3, 0);
         c.due(x, "spread(0)", x.spread(0), 1, 0);
+        c.due(x, "plan", x.plan(), 3, 0);
         c.due(x, "spread(1)", x.spread(1), 2, 0);
         c.due(x, "spread(2)", x.spread(2), 2, 0);
         c.due(x, "spread(3)", x.spread(3), 3, 0);
@@ -1004,6 +1037,22 @@ public final class PromisesTest {
         c.due(x, "no person", x.waiting(0, 2), -1, 5);
         x.tray(0, 0, 3);
         c.due(x, "too few, ahead of 5", x.waiting(0, 9), -1, 4);
+        c.due(x, "as many as it has: thrice 0", x.waiting(0, 3), -1, 5);
+        StringBuilder eight = new StringBuilder("water 5 bottom 9;");
+        for (int i = 0; i < 8; i++) eight.append("person p").append((char) ('a' + i)).append(";");
+        for (int i = 0; i < 6; i++) {
+            eight.append("rope r").append((char) ('a' + i)).append(" of p").append((char) ('a' + i));
+            for (int k = 0; k <= i % 3; k++) eight.append(" yards 40 age 1");
+            eight.append(";");
+        }
+        x = c.with(eight.toString());
+        x.sell(0, 9, 6);
+        x.sell(0, 9, 7);
+        x.tray(0, 0, 8);
+        for (int i = 0; i < 8; i++) x.write(0, i, 7 - i);
+        // In this order: 11, 11, 17, 14, 11, 17, 14, 11.
+        c.due(x, "eight", x.waiting(0, 8), 11 * 7 + 11 * 6 + 17 * 5 + 14 * 4 + 11 * 3 + 17 * 2 + 14, 0);
+        c.due(x, "eight, at best", x.leastWaiting(0, 8), 11 * (7 + 6 + 5 + 4) + 14 * (3 + 2) + 17, 0);
     }
 
     private static void marks() {
@@ -1065,6 +1114,7 @@ public final class PromisesTest {
         pour();
         feed();
         well();
+        wellAnew();
         wellFaults();
         law();
         lawFaults();
