@@ -121,6 +121,8 @@ public final class PromisesTest {
         c.due(x, "within one, as they were", x.pour(0, 0, 0, 1, 4), true, 0);
         for (int i = 1; i < 5; i++) c.due(x, "poured within", x.read(0, i), 9 + i, 0);
         c.due(x, "pour of none at the end", x.pour(0, 5, 1, 3, 0), true, 0);
+        c.due(x, "pour of none from beyond the end", x.pour(0, 6, 1, 0, 0), false, 4);
+        c.due(x, "pour of none to beyond the end", x.pour(0, 0, 1, 4, 0), false, 4);
         c.due(x, "no tray", x.pour(0, 0, 4, 0, 1), false, 1);
         c.due(x, "no tray", x.pour(-1, 0, 3, 0, 1), false, 1);
         c.due(x, "missing", x.pour(0, 0, 3, 0, 1), false, 3);
@@ -1088,6 +1090,9 @@ public final class PromisesTest {
         c.due(x, "not lent", x.rope(2, 1), -1, 8);
         c.due(x, "back", x.back(), -1, 8);
         c.due(x, "mark", x.mark(), 1, 0);
+        Check.put(x, "person z;");
+        x.back();
+        c.due(x, "the tape is not taken back", x.well(9), 1, 0);
     }
 
     private static void laws() {
