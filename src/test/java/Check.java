@@ -1,11 +1,35 @@
+import java.util.List;
+
 /** What the tests share: feeding a text, counting answers that are not the ones due. */
 final class Check {
     private int wrong = 0;
     private int asked = 0;
     private String where = "";
 
+    interface Tells {
+        long of(WellHeirs x);
+    }
+
+    interface Does {
+        boolean of(WellHeirs x);
+    }
+
+    interface Make {
+        WellHeirs one();
+    }
+
     void at(String promise) {
         where = promise;
+    }
+
+    /** The words of the document by which the next answers are due: they must stand there. */
+    void says(String words) {
+        where = words;
+        asked++;
+        if (!Document.text().contains(words)) {
+            wrong++;
+            System.out.println("The document does not say: " + words);
+        }
     }
 
     void due(String call, long got, long want) {
@@ -83,6 +107,41 @@ final class Check {
         due(x, "law " + text, law(x, text), -1, 10);
         due("fault(0) of " + text, x.fault(0), fault);
         due("fault(1) of " + text, x.fault(1), place);
+    }
+
+    /** A call that is refused: NONE, its STATUS, and nothing else is another than without the call. */
+    void refused(String call, Make make, Tells calls, int status) {
+        WellHeirs x = make.one();
+        due(x, call, calls.of(x), -1, status);
+        alike("all else behind " + call, Readout.of(x), Readout.of(make.one()));
+    }
+
+    void denied(String call, Make make, Does does, int status) {
+        WellHeirs x = make.one();
+        due(x, call, does.of(x), false, status);
+        alike("all else behind " + call, Readout.of(x), Readout.of(make.one()));
+    }
+
+    /** A text that is refused by a FAULT: only the tape and what fault() tells may be others. */
+    void faulty(String name, Make make, Tells calls) {
+        WellHeirs x = make.one();
+        due(x, name, calls.of(x), -1, 10);
+        alike("all else behind " + name, Readout.withoutTexts(x), Readout.withoutTexts(make.one()));
+    }
+
+    void alike(String what, List<String> got, List<String> want) {
+        asked++;
+        if (!got.equals(want)) {
+            wrong++;
+            System.out.println(where + ": " + what + ": " + firstUnlike(got, want));
+        }
+    }
+
+    private static String firstUnlike(List<String> got, List<String> want) {
+        for (int i = 0; i < Math.min(got.size(), want.size()); i++) {
+            if (!got.get(i).equals(want.get(i))) return got.get(i) + ", due is " + want.get(i);
+        }
+        return got.size() + " answers, due are " + want.size();
     }
 
     void end(String name) {
