@@ -5,7 +5,7 @@ import java.util.List;
 import java.util.regex.Matcher;
 import java.util.regex.Pattern;
 
-/** Each sentence of the document, from its Terms to its last promise, is quoted by a test that holds the class to it. */
+/** Each quote stands in the document, and each sentence from its Terms to its last promise is quoted by a test. */
 public final class SentencesTest {
     private static final Pattern SAYS = Pattern.compile("c\\.says\\(((\\s*\"(\\\\.|[^\"\\\\])*\"\\s*\\+?)+)\\)");
     private static final Pattern LITERAL = Pattern.compile("\"((\\\\.|[^\"\\\\])*)\"");
@@ -44,6 +44,13 @@ public final class SentencesTest {
     public static void main(String[] args) {
         List<String> quotes = quotes();
         int unquoted = 0;
+        int strange = 0;
+        for (String words : quotes) {
+            if (!Document.text().contains(words)) {
+                strange++;
+                System.out.println("SentencesTest: the document does not say: " + words);
+            }
+        }
         for (String piece : left(quotes).split("\n")) {
             if (piece.matches(".*\\w{3}.*")) {
                 unquoted++;
@@ -51,6 +58,6 @@ public final class SentencesTest {
             }
         }
         System.out.println("SentencesTest: " + quotes.size() + " quotes, " + unquoted + " places are left");
-        if (unquoted != 0 || quotes.size() < 48) System.exit(1);
+        if (unquoted != 0 || strange != 0 || quotes.size() < 48) System.exit(1);
     }
 }
